@@ -549,6 +549,7 @@ public final class PromiseTest {
         due("11: the answer", x.answer(2), 1);
         stepThroughProbes();
         guides();
+        guidesDecide();
     }
 
     private static void stepThroughProbes() {
@@ -608,6 +609,35 @@ public final class PromiseTest {
         due("11: it has passed nothing", x.pending(5, 2), 0);
         due("11: its origin", x.pending(5, 1), 4);
         due("11: the event", x.event(0), 650);
+    }
+
+    /** Source 1 has more older rows than source 2, but its guide leaves fewer of them. */
+    private static void guidesDecide() {
+        AdaptiveQueryExecutor x = Check.with(1, 1, 1);
+        Check.add(x, "1:1.0=2.0");
+        Check.add(x, "1:0.0=1.0");
+        for (int key = 0; key < 3; key++) {
+            x.deliver(1, key, key, 0, 0);
+        }
+        x.deliver(2, 0, 2, 0, 0);
+        x.deliver(2, 1, 1, 0, 0);
+        x.run(9999);
+        int matches = x.of(1, 5);
+        x.deliver(0, 0, 2, 0, 0);
+        due("11: the guide counts", x.next(), 21);
+        x.step(1);
+        due("11: one match", x.of(1, 5) - matches, 1);
+        due("11: recorded at the guide, behind the three rows of source 1", x.told(1, 6), 4);
+        due("11: the partial", x.pending(0, 11), 2);
+        due("11: the guide is passed", x.pending(0, 2), 2);
+        due("11: then source 2", x.next(), 22);
+        x.step(1);
+        due("11: the other guide is passed, too", x.pending(0, 2), 3);
+        due("11: the row of source 2", x.pending(0, 12), 0);
+        due("11: excluded by the second probe", x.where(201), 10);
+        due("11: excluded by the first probe", x.where(100), 11);
+        x.step(1);
+        due("11: the output", x.where(200), 1);
     }
 
     // ---- promise 12
@@ -890,6 +920,14 @@ public final class PromiseTest {
         x.drop(1, 2);
         due("20: without a row", x.answer(0), 4);
         due("20: settled still", x.answer(2), 1);
+        AdaptiveQueryExecutor y = Check.with(1);
+        Check.add(y, "1:0.0<5");
+        y.deliver(0, 0, 1, 0, 0);
+        y.run(9999);
+        y.deliver(0, 1, 9, 0, 0);
+        due("20: all outputs, but the queue is not empty", y.answer(2), 0);
+        y.step(1);
+        due("20: now it is", y.answer(2), 1);
         allKinds();
     }
 
@@ -1022,6 +1060,25 @@ public final class PromiseTest {
         Check.add(y, "2:0.0<100");
         y.deliver(0, 0, 200, 0, 0);
         due("23: the highest number first", y.best(), 3);
+        bestIsTheLeastEvaluated();
+    }
+
+    /** Operators 0 and 2 have been evaluated and seem good; only operator 1 stops the last row. */
+    private static void bestIsTheLeastEvaluated() {
+        AdaptiveQueryExecutor x = Check.with(1);
+        Check.add(x, "1:0.0<900");
+        Check.add(x, "3:0.0<5");
+        Check.add(x, "1:0.0>-900");
+        x.policy(1);
+        x.deliver(0, 0, 950, 0, 0);
+        x.deliver(0, 1, -950, 0, 0);
+        x.run(9999);
+        x.deliver(0, 2, 100, 0, 0);
+        int[] work = {4, 5, 5, 4, 3};
+        for (int p = 0; p < 5; p++) {
+            due("23: work of policy " + p, x.would(p, 0), work[p]);
+        }
+        due("23: the least evaluated first", x.best(), 4);
     }
 
     // ---- promise 24
@@ -1029,23 +1086,25 @@ public final class PromiseTest {
     private static void age() {
         AdaptiveQueryExecutor x = Check.with(1);
         due("24: no operators", x.age(), 0);
-        Check.add(x, "1:0.0<3");
+        Check.add(x, "1:0.0<5");
         Check.add(x, "1:0.0<1");
         for (int key = 0; key < 7; key++) {
             x.deliver(0, key, key, 0, 0);
         }
         x.run(9999);
         due("24: evaluated", x.told(0, 3), 7);
-        due("24: passed", x.told(0, 4), 3);
-        due("24: evaluated 1", x.told(1, 3), 3);
+        due("24: passed", x.told(0, 4), 5);
+        due("24: evaluated 1", x.told(1, 3), 5);
+        due("24: passed 1", x.told(1, 4), 1);
         x.remove(1);
-        due("24: age, removed ones too", x.age(), 3 + 1);
+        due("24: age, removed ones too", x.age(), 3 + 2);
         due("24: evaluated halved", x.told(0, 3), 3);
-        due("24: passed halved", x.told(0, 4), 1);
-        due("24: removed one halved", x.told(1, 3), 1);
+        due("24: passed halved", x.told(0, 4), 2);
+        due("24: removed one halved", x.told(1, 3), 2);
         due("24: its passed halved", x.told(1, 4), 0);
-        due("24: again", x.age(), 1);
+        due("24: again", x.age(), 1 + 1);
         due("24: to nothing", x.age(), 0);
+        due("24: the work stays", x.count(10), 12);
     }
 
     // ---- promise 25
