@@ -1470,7 +1470,7 @@ public final class AdaptiveQueryExecutor {
         }
 
         /** Tallies the combinations of the answer that begin with the given rows. */
-        void tallyFrom(int s, long rows, int code, Tally tally) {
+        private void tallyFrom(int s, long rows, int code, Tally tally) {
             if (!hasSource(s)) {
                 if (allHold(rows)) {
                     tally.add(code);

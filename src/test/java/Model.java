@@ -8,10 +8,6 @@ import java.util.TreeSet;
  * copies that are made by making all calls again. It is what the class is compared with.
  */
 final class Model {
-    static final String[] CALLS = {"source", "window", "deliver", "drop", "feed", "operator", "remove", "policy",
-        "discipline", "step", "run", "next", "pending", "told", "of", "value", "output", "where", "answer", "rank",
-        "would", "best", "age", "event", "image", "undo", "count"};
-
     private static final class Row {
         int source;
         int number;
@@ -126,21 +122,38 @@ final class Model {
     private int work;
     private List<int[]> log = new ArrayList<>();
 
-    /** Makes a call, given by its number in CALLS and its arguments. */
-    static long call(Model[] held, List<int[]>[] saved, int... call) {
-        String name = CALLS[call[0]];
-        if (name.equals("image")) {
-            saved[0] = new ArrayList<>(held[0].log);
-            return held[0].queue.size();
-        }
-        if (name.equals("undo")) {
-            if (saved[0] == null) {
-                return -3;
+    /** A model with its snapshot, which is the calls that led to it. */
+    static final class Held {
+        private Model model = new Model();
+        private List<int[]> saved;
+
+        long call(int[] call) {
+            switch (Calls.NAMES[call[0]]) {
+                case "image":
+                    saved = new ArrayList<>(model.log);
+                    return model.queue.size();
+                case "undo":
+                    if (saved == null) {
+                        return -3;
+                    }
+                    model = again(saved);
+                    return model.queue.size();
+                default:
+                    return model.logged(call);
             }
-            held[0] = again(saved[0]);
-            return held[0].queue.size();
         }
-        return held[0].logged(call);
+
+        int ask(String name, int... arguments) {
+            return (int) call(Calls.of(name, arguments));
+        }
+    }
+
+    static Held after(List<int[]> calls) {
+        Held held = new Held();
+        for (int[] call : calls) {
+            held.call(call);
+        }
+        return held;
     }
 
     private static Model again(List<int[]> calls) {
@@ -152,7 +165,7 @@ final class Model {
     }
 
     private long logged(int[] call) {
-        if (call[0] <= 10 || CALLS[call[0]].equals("age")) {
+        if (call[0] <= 10 || Calls.NAMES[call[0]].equals("age")) {
             log.add(call);
             return change(call);
         }
@@ -160,7 +173,7 @@ final class Model {
     }
 
     private long change(int[] c) {
-        switch (CALLS[c[0]]) {
+        switch (Calls.NAMES[c[0]]) {
             case "source":
                 return source(c[1]);
             case "window":
@@ -494,7 +507,7 @@ final class Model {
     }
 
     private long ask(int[] c) {
-        switch (CALLS[c[0]]) {
+        switch (Calls.NAMES[c[0]]) {
             case "next":
                 return next();
             case "pending":

@@ -1,0 +1,66 @@
+import java.io.IOException;
+import java.io.UncheckedIOException;
+import java.nio.file.Files;
+import java.nio.file.Path;
+import java.util.ArrayList;
+import java.util.List;
+import java.util.Set;
+import java.util.TreeSet;
+import java.util.stream.Stream;
+
+/**
+ * The runs of calls that are written in the files under src/test/runs: "# " begins a part, "> " tells a sentence of
+ * the document, and "- " begins a run for it.
+ */
+final class Runs {
+    private static final Path FILES = Path.of("src/test/runs");
+
+    final Set<String> parts = new TreeSet<>();
+    final List<String> sentences = new ArrayList<>();
+    final Set<String> sentencesWithRuns = new TreeSet<>();
+    final List<Written> all = new ArrayList<>();
+    private String part = "";
+    private String sentence = "";
+    private int number;
+    private StringBuilder run;
+
+    Runs() {
+        try (Stream<Path> files = Files.list(FILES)) {
+            for (Path file : files.sorted().toList()) {
+                Files.readAllLines(file).forEach(this::readLine);
+                endRun();
+            }
+        } catch (IOException problem) {
+            throw new UncheckedIOException(problem);
+        }
+    }
+
+    private void readLine(String line) {
+        if (line.startsWith("# ")) {
+            endRun();
+            part = line.substring(2);
+            parts.add(part.split(":")[0]);
+        } else if (line.startsWith("> ")) {
+            endRun();
+            sentence = line.substring(2);
+            sentences.add(sentence);
+            number = 0;
+        } else if (line.startsWith("- ")) {
+            endRun();
+            run = new StringBuilder(line.substring(2));
+        } else if (run != null) {
+            run.append(' ').append(line);
+        }
+    }
+
+    private void endRun() {
+        if (run == null) {
+            return;
+        }
+        number++;
+        sentencesWithRuns.add(sentence);
+        String begin = sentence.substring(0, Math.min(sentence.length(), 60));
+        all.add(new Written(part + ", \"" + begin + "\", run " + number, run.toString()));
+        run = null;
+    }
+}
