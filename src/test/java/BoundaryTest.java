@@ -15,11 +15,13 @@ public final class BoundaryTest {
     public static void main(String[] args) throws IOException {
         Runs runs = new Runs();
         checkSentences(runs);
+        List<int[]> disturbances = disturbances();
         for (Written run : runs.all) {
             checkAnswers(run);
             checkRefusals(run);
             checkQuestions(run);
             checkSimulations(run);
+            checkSnapshot(run, disturbances);
         }
         check.finish();
     }
@@ -109,6 +111,33 @@ public final class BoundaryTest {
             check.due(run.title + ": would(" + p + ", 1)", x.would(p, 1), y.count(9) - steps);
             check.due(run.title + ": would(" + p + ", 2)", x.would(p, 2), y.count(3));
             check.due(run.title + ": the outputs are the answer", y.answer(2), 1);
+        }
+    }
+
+    /** Calls that change all that can be changed. */
+    private static List<int[]> disturbances() {
+        List<int[]> calls = new ArrayList<>();
+        for (String call : new String[] {"feed(120)", "operator()", "feed(49)", "feed(58)", "feed(48)", "feed(46)",
+            "feed(48)", "feed(62)", "feed(50)", "operator()", "source(3)", "run(9999)", "remove(0)", "step(3)",
+            "deliver(0, 60, 3, 3, 3)", "deliver(0, 60, 3, 3, 3)", "deliver(1, 61, 9, 9, 9)", "window(1, 3)",
+            "policy(3)", "discipline(1)", "step(2)", "run(9999)", "age()", "window(0, 2)", "drop(0, 0)", "drop(2, 0)",
+            "remove(1)", "discipline(0)", "step(4)", "policy(2)", "feed(55)"}) {
+            calls.add(Calls.read(call));
+        }
+        return calls;
+    }
+
+    /** Whatever is done behind a snapshot, undo brings all back, and again a second time. */
+    private static void checkSnapshot(Written run, List<int[]> disturbances) {
+        List<int[]> before = run.calls();
+        before.add(Calls.of("image"));
+        List<int[]> behind = new ArrayList<>(before);
+        for (int i = 0; i < 2 && behind.size() < Calls.MOST - 200; i++) {
+            behind.addAll(disturbances);
+            behind.add(Calls.of("undo"));
+            String difference = Twins.difference(before, behind, true);
+            check.due(run.title + ": before all that is undone and behind it " + difference, difference == null ? 0 : 1,
+                0);
         }
     }
 }
