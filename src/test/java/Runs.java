@@ -10,7 +10,7 @@ import java.util.stream.Stream;
 
 /**
  * The runs of calls that are written in the files under src/test/runs: "# " begins a part, "> " tells a sentence of
- * the document, and "- " begins a run for it.
+ * the document, "- " begins a run for it, and "= " sets words of the document aside that need no run.
  */
 final class Runs {
     private static final Path FILES = Path.of("src/test/runs");
@@ -18,6 +18,8 @@ final class Runs {
     final Set<String> parts = new TreeSet<>();
     final List<String> sentences = new ArrayList<>();
     final Set<String> sentencesWithRuns = new TreeSet<>();
+    /** All that stands in the files: sentences, words set aside, and runs. */
+    final List<String> written = new ArrayList<>();
     final List<Written> all = new ArrayList<>();
     private String part = "";
     private String sentence = "";
@@ -44,12 +46,15 @@ final class Runs {
             endRun();
             sentence = line.substring(2);
             sentences.add(sentence);
+            written.add(sentence);
             number = 0;
+        } else if (line.startsWith("= ")) {
+            written.add(line.substring(2));
         } else if (line.startsWith("- ")) {
             endRun();
             run = new StringBuilder(line.substring(2));
         } else if (run != null) {
-            run.append(' ').append(line);
+            run.append(' ').append(line.trim());
         }
     }
 
@@ -59,6 +64,7 @@ final class Runs {
         }
         number++;
         sentencesWithRuns.add(sentence);
+        written.add(run.toString().trim());
         String begin = sentence.substring(0, Math.min(sentence.length(), 60));
         all.add(new Written(part + ", \"" + begin + "\", run " + number, run.toString()));
         run = null;

@@ -5,12 +5,12 @@ import java.util.ArrayList;
 import java.util.List;
 
 /**
- * The sentences of the document that name a boundary case, each with runs of calls of its own. A refused call must
- * leave everything as it was, and so must a question.
+ * The sentences of the document, each with runs of calls of its own. A refused call must leave everything as it was,
+ * and so must a question.
  */
-public final class BoundaryTest {
+public final class DocumentTest {
     private static final Path DOCUMENT = Path.of("../shared/DOC.md");
-    private static final Check check = new Check("boundaries");
+    private static final Check check = new Check("document");
 
     public static void main(String[] args) throws IOException {
         Runs runs = new Runs();
@@ -37,6 +37,21 @@ public final class BoundaryTest {
         for (int promise = 1; promise <= 28; promise++) {
             check.due("a part for promise " + promise, runs.parts.contains("Promise " + promise) ? 1 : 0, 1);
         }
+        if (document != null) {
+            String rest = untested(Files.readString(DOCUMENT), runs.written);
+            check.due("words of the document without a run: " + rest, rest.length(), 0);
+        }
+    }
+
+    /** What the document says beside heads and signatures, without all that is written with the runs. */
+    private static String untested(String document, List<String> written) {
+        String rest = squeezed(document.replaceAll("(?s)```.*?```", "").replaceAll("(?m)^#.*$|^`[^`]*`$", ""));
+        List<String> longestFirst = new ArrayList<>(written);
+        longestFirst.sort((one, other) -> other.length() - one.length());
+        for (String words : longestFirst) {
+            rest = rest.replace(squeezed(words), " ");
+        }
+        return rest.replaceAll("[ -]+", " ").trim();
     }
 
     private static String squeezed(String text) {
